@@ -35,7 +35,7 @@ public final class CandleDip {
     private final Order[] orders;
     /** Kept and used again, so that asking what would be makes no new objects. */
     private final Trial trial;
-    /** Used only by possible(): at k the fewest candles with which k of the orders can be filled. */
+    /** Used only by possible(): at k the fewest candles that k of the orders want; at 0 always 0. */
     private final int[] fewestCandles;
     private int quarter;
     private int dipsInAll;
@@ -458,7 +458,6 @@ public final class CandleDip {
         if (filled < 0 || next >= fewestCandles.length) {
             return filled;
         }
-        fewestCandles[0] = 0;
         fewestCandles[next] = fewestCandles[filled] + many;
         for (int k = filled; k >= 1; k--) {
             fewestCandles[k] = Math.min(fewestCandles[k], fewestCandles[k - 1] + many);

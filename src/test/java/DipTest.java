@@ -217,6 +217,7 @@ public final class DipTest {
         x.pass(12);
         x.dip(0);
         check.due("8: a cold dip cracks them, though they can't grow", 1, () -> x.frame(0, 4));
+        check.due("8: 400 / 80 then", 5, () -> x.frame(0, 7));
     }
 
     private static void promise09SizeAndStore() {
@@ -330,5 +331,6 @@ public final class DipTest {
         y.pass(1);
         check.due("9: warmth of 20", 20, () -> y.frame(0, 3));
         check.due("9: cut off at 20", 1, () -> y.cutOff(0));
+        check.due("9: the new wicks are cold", 0, () -> y.frame(0, 3));
     }
 }

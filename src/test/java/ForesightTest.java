@@ -12,12 +12,14 @@ public final class ForesightTest {
         promise19Refuses();
         promise20BestRest();
         promise20LeastOfSeveral();
+        promise20FewestQuarters();
         promise20Refuses();
         promise21Advise();
         promise21OnlyThoseThatCanBeDipped();
         promise22Possible();
         promise22NotByTheRuleOfFilling();
         promise22OpenOrdersAlone();
+        promise22AllOrders();
         promise23Mean();
         promise24Digest();
         check.end();
@@ -56,6 +58,10 @@ public final class ForesightTest {
         check.due("18: wax for two dips, 12 and 8", 26, () -> little.would(0, 3));
         check.due("18: wax for two dips of 40", 26, () -> little.would(0, 40));
         check.due("18: the wax is still there", 20, () -> little.vat(0));
+
+        CandleDip wide = Workshop.heated(207, 1, 40);
+        Workshop.hung(wide, 0, 10, 0);
+        check.due("18: 10 wicks want 120 and 88", 15, () -> wide.would(0, 2));
 
         CandleDip fading = Workshop.heated(5000, 1, 40);
         fading.setFire(0);
@@ -181,6 +187,24 @@ public final class ForesightTest {
         check.due("20: so the least rest", 0, () -> x.bestRest(0, 1));
     }
 
+    private static void promise20FewestQuarters() {
+        CandleDip x = Workshop.steady();
+        Workshop.hung(x, 0, 1, 6);
+        x.setFire(5);
+        x.pass(1);
+        for (int i = 0; i < 7; i++) {
+            x.dip(0);
+            x.pass(8);
+        }
+        x.dip(0);
+        x.setFire(1);
+        check.due("20: with a rest of 4 they melt", -1, () -> x.dipsTo(0, 4, 1));
+        check.due("20: 7 dips and 6 rests of 5 are 37 quarters", 7, () -> x.dipsTo(0, 5, 1));
+        check.due("20: 6 dips and 5 rests of 6 are 36 quarters", 6, () -> x.dipsTo(0, 6, 1));
+        check.due("20: 6 dips and 5 rests of 7 are 41 quarters", 6, () -> x.dipsTo(0, 7, 1));
+        check.due("20: the fewest quarters", 6, () -> x.bestRest(0, 1));
+    }
+
     private static void promise20Refuses() {
         CandleDip x = Workshop.steady();
         check.noIndex("20: no frame yet", () -> x.bestRest(0, 1));
@@ -238,6 +262,15 @@ public final class ForesightTest {
         Workshop.grow(full, 0, 36);
         check.due("21: thickness of 400", 400, () -> full.frame(0, 2));
         check.due("21: it can be dipped, but not be thicker", -1, full::advise);
+
+        CandleDip nearly = Workshop.heated(20000, 5, 20);
+        Workshop.hung(nearly, 0, 1, 6);
+        for (int i = 0; i < 79; i++) {
+            nearly.dip(0);
+            nearly.pass(8);
+        }
+        check.due("21: thickness of 399", 399, () -> nearly.frame(0, 2));
+        check.due("21: thicker by 1", 0, nearly::advise);
     }
 
     private static void promise22Possible() {
@@ -303,7 +336,23 @@ public final class ForesightTest {
         check.due("22: which could be filled", 1, () -> x.order(0, 5));
     }
 
+    private static void promise22AllOrders() {
+        CandleDip x = Workshop.steady();
+        Workshop.hung(x, 0, 20, 6);
+        Workshop.harvest(x, 0, 4);
+        for (int i = 1; i <= 20; i++) {
+            int orders = i;
+            x.addOrder(0, 1, 1, 900);
+            check.due("22: " + orders + " orders of 20 candles", orders, x::possible);
+        }
+    }
+
     private static void promise23Mean() {
+        CandleDip single = Workshop.steady();
+        Workshop.hung(single, 0, 1, 0);
+        single.dip(0);
+        check.due("23: one wick", 15.0, single::mean);
+
         CandleDip x = Workshop.steady();
         check.due("23: no frame", 0.0, x::mean);
         x.addFrame(0, 5);

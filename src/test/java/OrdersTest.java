@@ -9,6 +9,7 @@ public final class OrdersTest {
         promise13Refuses();
         promise13DayIsNotEarlierThanToday();
         promise14FillTakesTheSmallestFirst();
+        promise14FillsTheGreatestSize();
         promise14FillsLateOrders();
         promise14Refuses();
         promise15Order();
@@ -124,6 +125,20 @@ public final class OrdersTest {
         check.due("14: other kinds stay", 4, () -> x.store(1, 1));
         check.due("14: the last ones", 0, () -> x.fill(2));
         check.due("14: four are filled", 4, () -> x.count(5));
+    }
+
+    private static void promise14FillsTheGreatestSize() {
+        CandleDip x = Workshop.steady();
+        Workshop.hung(x, 3, 2, 6);
+        Workshop.grow(x, 0, 45);
+        x.pass(10);
+        check.due("14: size 9", 9, () -> x.cutOff(0));
+        x.addOrder(3, 9, 1, 900);
+        x.addOrder(3, 1, 1, 900);
+        check.due("14: an order of size 9", 1, () -> x.fill(0));
+        check.due("14: one is left", 1, () -> x.store(3, 9));
+        check.due("14: size 9 for an order of size 1", 0, () -> x.fill(1));
+        check.due("14: none is left", 0, () -> x.store(3, 9));
     }
 
     private static void promise14FillsLateOrders() {
