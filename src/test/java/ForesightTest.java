@@ -4,22 +4,13 @@ public final class ForesightTest {
 
     public static void main(String[] args) {
         promise18Would();
-        promise18AsFarAsItCouldBe();
-        promise18Refuses();
         promise19DipsTo();
-        promise19DipsThatCouldNotBe();
-        promise19AtMostSixtyDips();
-        promise19Refuses();
         promise20BestRest();
-        promise20LeastOfSeveral();
         promise20FewestQuarters();
-        promise20Refuses();
         promise21Advise();
-        promise21OnlyThoseThatCanBeDipped();
         promise22Possible();
         promise22NotByTheRuleOfFilling();
         promise22OpenOrdersAlone();
-        promise22AllOrders();
         promise23Mean();
         promise24Digest();
         check.end();
@@ -47,45 +38,6 @@ public final class ForesightTest {
         check.due("18: 9 at 120, 6 at 110", 15, () -> cooling.would(0, 2));
     }
 
-    private static void promise18AsFarAsItCouldBe() {
-        CandleDip cold = new CandleDip();
-        cold.melt(5000);
-        Workshop.hung(cold, 0, 1, 0);
-        check.due("18: wax that is not melted", 0, () -> cold.would(0, 5));
-
-        CandleDip little = Workshop.heated(20, 1, 40);
-        Workshop.hung(little, 0, 1, 0);
-        check.due("18: wax for two dips, 12 and 8", 26, () -> little.would(0, 3));
-        check.due("18: wax for two dips of 40", 26, () -> little.would(0, 40));
-        check.due("18: the wax is still there", 20, () -> little.vat(0));
-
-        CandleDip wide = Workshop.heated(207, 1, 40);
-        Workshop.hung(wide, 0, 10, 0);
-        check.due("18: 10 wicks want 120 and 88", 15, () -> wide.would(0, 2));
-
-        CandleDip fading = Workshop.heated(5000, 1, 40);
-        fading.setFire(0);
-        Workshop.hung(fading, 0, 1, 0);
-        check.due("18: dips at 74, 69, 65 and 61", 15 + 11 + 12 + 12, () -> fading.would(0, 4));
-        check.due("18: none at 57", 50, () -> fading.would(0, 5));
-    }
-
-    private static void promise18Refuses() {
-        CandleDip x = Workshop.steady();
-        check.noIndex("18: no frame yet", () -> x.would(0, 1));
-        x.addFrame(0, 1);
-        check.noState("18: it lies aside", () -> x.would(0, 1));
-        check.noArgument("18: aside, and dips wrong", () -> x.would(0, 41));
-        x.hang(0, 0);
-        for (int bad : new int[] {-1, 41, Integer.MIN_VALUE, Integer.MAX_VALUE}) {
-            check.refused("18: would(0, " + bad + ")", x, IllegalArgumentException.class, () -> x.would(0, bad));
-            check.refused("18: would(" + bad + ", 1)", x, IndexOutOfBoundsException.class, () -> x.would(bad, 1));
-            check.refused("18: would(" + bad + ", 0)", x, IndexOutOfBoundsException.class, () -> x.would(bad, 0));
-        }
-        check.noArgument("18: would(0, 0)", () -> x.would(0, 0));
-        check.noIndex("18: would(1, 1)", () -> x.would(1, 1));
-    }
-
     private static void promise19DipsTo() {
         CandleDip x = Workshop.steady();
         Workshop.hung(x, 0, 1, 6);
@@ -107,58 +59,6 @@ public final class ForesightTest {
         check.due("19: with a crack 160 are wanted", 11, () -> x.dipsTo(0, 4, 2));
     }
 
-    private static void promise19DipsThatCouldNotBe() {
-        CandleDip cold = new CandleDip();
-        cold.melt(5000);
-        cold.setFire(5);
-        Workshop.hung(cold, 0, 1, 6);
-        check.due("19: not melted now", -1, () -> cold.dipsTo(0, 10, 1));
-
-        CandleDip little = Workshop.heated(12 + 8 + 8 + 8, 1, 40);
-        Workshop.hung(little, 0, 1, 6);
-        check.due("19: just wax enough", 4, () -> little.dipsTo(0, 2, 1));
-        check.due("19: no wax for a fifth dip", -1, () -> little.dipsTo(0, 2, 2));
-
-        CandleDip fading = Workshop.heated(5000, 1, 40);
-        fading.setFire(0);
-        Workshop.hung(fading, 0, 1, 6);
-        check.due("19: four dips ahead of 57", 4, () -> fading.dipsTo(0, 0, 1));
-        check.due("19: the fire goes down in the rests too", -1, () -> fading.dipsTo(0, 1, 1));
-    }
-
-    private static void promise19AtMostSixtyDips() {
-        CandleDip x = Workshop.heated(20000, 5, 20);
-        Workshop.hung(x, 3, 1, 11);
-        check.due("19: 6 and 2 each, 58 dips for 120", 58, () -> x.dipsTo(0, 8, 3));
-        check.due("19: 78 dips for 160", -1, () -> x.dipsTo(0, 8, 4));
-        for (int i = 0; i < 17; i++) {
-            x.dip(0);
-            x.pass(8);
-        }
-        check.due("19: 61 more dips for 160", -1, () -> x.dipsTo(0, 8, 4));
-        x.dip(0);
-        x.pass(8);
-        check.due("19: 60 more dips for 160", 60, () -> x.dipsTo(0, 8, 4));
-    }
-
-    private static void promise19Refuses() {
-        CandleDip x = Workshop.steady();
-        check.noIndex("19: no frame yet", () -> x.dipsTo(0, 0, 1));
-        x.addFrame(0, 1);
-        check.noState("19: it lies aside", () -> x.dipsTo(0, 0, 1));
-        check.noArgument("19: aside, and rest wrong", () -> x.dipsTo(0, 21, 1));
-        check.noArgument("19: aside, and size wrong", () -> x.dipsTo(0, 0, 10));
-        x.hang(0, 0);
-        for (int bad : new int[] {-1, 21, Integer.MIN_VALUE, Integer.MAX_VALUE}) {
-            check.refused("19: dipsTo(0, " + bad + ", 1)", x, IllegalArgumentException.class, () -> x.dipsTo(0, bad, 1));
-            check.refused("19: dipsTo(0, 0, " + bad + ")", x, IllegalArgumentException.class, () -> x.dipsTo(0, 0, bad));
-            check.refused("19: dipsTo(" + bad + ", 0, 0)", x, IndexOutOfBoundsException.class, () -> x.dipsTo(bad, 0, 0));
-        }
-        check.noArgument("19: dipsTo(0, 0, 0)", () -> x.dipsTo(0, 0, 0));
-        check.noArgument("19: dipsTo(0, 0, 10)", () -> x.dipsTo(0, 0, 10));
-        check.noIndex("19: dipsTo(1, 0, 1)", () -> x.dipsTo(1, 0, 1));
-    }
-
     private static void promise20BestRest() {
         CandleDip x = Workshop.steady();
         Workshop.hung(x, 0, 1, 6);
@@ -175,16 +75,6 @@ public final class ForesightTest {
         CandleDip hot = Workshop.heated(20000, 5, 20);
         Workshop.hung(hot, 0, 1, 6);
         check.due("20: size 9 wants more than 60 dips", -1, () -> hot.bestRest(0, 9));
-    }
-
-    private static void promise20LeastOfSeveral() {
-        CandleDip x = Workshop.steady();
-        Workshop.hung(x, 0, 1, 6);
-        x.dip(0);
-        x.dip(0);
-        x.dip(0);
-        check.due("20: one dip is the same with each rest", 1, () -> x.dipsTo(0, 20, 1));
-        check.due("20: so the least rest", 0, () -> x.bestRest(0, 1));
     }
 
     private static void promise20FewestQuarters() {
@@ -205,21 +95,6 @@ public final class ForesightTest {
         check.due("20: the fewest quarters", 6, () -> x.bestRest(0, 1));
     }
 
-    private static void promise20Refuses() {
-        CandleDip x = Workshop.steady();
-        check.noIndex("20: no frame yet", () -> x.bestRest(0, 1));
-        x.addFrame(0, 1);
-        check.noState("20: it lies aside", () -> x.bestRest(0, 1));
-        check.noArgument("20: aside, and size wrong", () -> x.bestRest(0, 0));
-        x.hang(0, 0);
-        for (int bad : new int[] {-1, 10, Integer.MIN_VALUE, Integer.MAX_VALUE}) {
-            check.refused("20: bestRest(0, " + bad + ")", x, IllegalArgumentException.class, () -> x.bestRest(0, bad));
-            check.refused("20: bestRest(" + bad + ", 0)", x, IndexOutOfBoundsException.class, () -> x.bestRest(bad, 0));
-        }
-        check.noArgument("20: bestRest(0, 0)", () -> x.bestRest(0, 0));
-        check.noIndex("20: bestRest(1, 1)", () -> x.bestRest(1, 1));
-    }
-
     private static void promise21Advise() {
         CandleDip x = Workshop.steady();
         check.due("21: no frame", -1, x::advise);
@@ -238,39 +113,6 @@ public final class ForesightTest {
         check.due("21: of 12, 11 and 11", 1, x::advise);
         x.dip(1);
         check.due("21: of 8, 11 and 11", 2, x::advise);
-    }
-
-    private static void promise21OnlyThoseThatCanBeDipped() {
-        CandleDip x = Workshop.heated(20, 1, 40);
-        Workshop.hung(x, 0, 20, 0);
-        check.due("21: not wax enough", -1, x::advise);
-        Workshop.hung(x, 0, 1, 1);
-        check.due("21: wax enough for the other one", 1, x::advise);
-        x.setFire(0);
-        x.pass(4);
-        check.due("21: not melted", -1, x::advise);
-
-        CandleDip melting = Workshop.steady();
-        Workshop.hung(melting, 0, 1, 0);
-        Workshop.dipOften(melting, 0, 5);
-        check.due("21: it would melt", -1, melting::advise);
-        melting.pass(1);
-        check.due("21: it would grow", 0, melting::advise);
-
-        CandleDip full = Workshop.steady();
-        Workshop.hung(full, 0, 1, 6);
-        Workshop.grow(full, 0, 36);
-        check.due("21: thickness of 400", 400, () -> full.frame(0, 2));
-        check.due("21: it can be dipped, but not be thicker", -1, full::advise);
-
-        CandleDip nearly = Workshop.heated(20000, 5, 20);
-        Workshop.hung(nearly, 0, 1, 6);
-        for (int i = 0; i < 79; i++) {
-            nearly.dip(0);
-            nearly.pass(8);
-        }
-        check.due("21: thickness of 399", 399, () -> nearly.frame(0, 2));
-        check.due("21: thicker by 1", 0, nearly::advise);
     }
 
     private static void promise22Possible() {
@@ -334,17 +176,6 @@ public final class ForesightTest {
         x.pass(40);
         check.due("22: without a late one", 1, x::possible);
         check.due("22: which could be filled", 1, () -> x.order(0, 5));
-    }
-
-    private static void promise22AllOrders() {
-        CandleDip x = Workshop.steady();
-        Workshop.hung(x, 0, 20, 6);
-        Workshop.harvest(x, 0, 4);
-        for (int i = 1; i <= 20; i++) {
-            int orders = i;
-            x.addOrder(0, 1, 1, 900);
-            check.due("22: " + orders + " orders of 20 candles", orders, x::possible);
-        }
     }
 
     private static void promise23Mean() {

@@ -4,16 +4,10 @@ public final class OrdersTest {
 
     public static void main(String[] args) {
         promise12Store();
-        promise12Refuses();
         promise13AddOrder();
-        promise13Refuses();
-        promise13DayIsNotEarlierThanToday();
         promise14FillTakesTheSmallestFirst();
-        promise14FillsTheGreatestSize();
         promise14FillsLateOrders();
-        promise14Refuses();
         promise15Order();
-        promise15Refuses();
         check.end();
     }
 
@@ -43,18 +37,6 @@ public final class OrdersTest {
         check.due("12: candles in all", 19, () -> x.count(3));
     }
 
-    private static void promise12Refuses() {
-        CandleDip x = stocked();
-        for (int bad : new int[] {-1, 10, Integer.MIN_VALUE, Integer.MAX_VALUE}) {
-            check.refused("12: store(" + bad + ", 1)", x, IndexOutOfBoundsException.class, () -> x.store(bad, 1));
-            check.refused("12: store(2, " + bad + ")", x, IndexOutOfBoundsException.class, () -> x.store(2, bad));
-        }
-        check.noIndex("12: store(4, 1)", () -> x.store(4, 1));
-        check.noIndex("12: store(1, 0)", () -> x.store(1, 0));
-        check.due("12: store(3, 9)", 0, () -> x.store(3, 9));
-        check.due("12: store(0, 1)", 0, () -> x.store(0, 1));
-    }
-
     private static void promise13AddOrder() {
         CandleDip x = new CandleDip();
         check.due("13: the first order", 0, () -> x.addOrder(3, 9, 60, 1000));
@@ -70,39 +52,6 @@ public final class OrdersTest {
         }
         check.due("13: orders", 2, () -> x.count(4));
         check.due("13: no quarter goes by", 0, () -> x.count(0));
-    }
-
-    private static void promise13Refuses() {
-        CandleDip x = new CandleDip();
-        int[][] bad = {{-1, 1, 1, 0}, {4, 1, 1, 0}, {0, 0, 1, 0}, {0, 10, 1, 0}, {0, 1, 0, 0}, {0, 1, 61, 0},
-            {0, 1, 1, -1}, {0, 1, 1, 1001}, {Integer.MIN_VALUE, 1, 1, 0}, {0, Integer.MAX_VALUE, 1, 0},
-            {0, 1, Integer.MIN_VALUE, 0}, {0, 1, 1, Integer.MIN_VALUE}, {0, 1, 1, Integer.MAX_VALUE}};
-        for (int round = 0; round < 2; round++) {
-            for (int[] b : bad) {
-                check.refused("13: addOrder(" + b[0] + ", " + b[1] + ", " + b[2] + ", " + b[3] + ")", x,
-                    IllegalArgumentException.class, () -> x.addOrder(b[0], b[1], b[2], b[3]));
-            }
-            for (int i = 0; round == 0 && i < 20; i++) {
-                int number = i;
-                check.due("13: order number " + i, number, () -> x.addOrder(1, 2, 3, 4));
-            }
-        }
-        check.refused("13: a 21st order", x, IllegalStateException.class, () -> x.addOrder(1, 2, 3, 4));
-    }
-
-    private static void promise13DayIsNotEarlierThanToday() {
-        CandleDip x = new CandleDip();
-        x.pass(39);
-        check.due("13: day 0 in its last quarter", 0, () -> x.addOrder(0, 1, 1, 0));
-        x.pass(1);
-        check.refused("13: day 0 on day 1", x, IllegalArgumentException.class, () -> x.addOrder(0, 1, 1, 0));
-        check.due("13: day 1 on day 1", 1, () -> x.addOrder(0, 1, 1, 1));
-        for (int i = 0; i < 100; i++) {
-            x.pass(400);
-        }
-        check.due("13: quarter of day 1001", 40040, () -> x.count(0));
-        check.refused("13: no day is left", x, IllegalArgumentException.class, () -> x.addOrder(0, 1, 1, 1001));
-        check.refused("13: day 1000 is over", x, IllegalArgumentException.class, () -> x.addOrder(0, 1, 1, 1000));
     }
 
     private static void promise14FillTakesTheSmallestFirst() {
@@ -127,20 +76,6 @@ public final class OrdersTest {
         check.due("14: four are filled", 4, () -> x.count(5));
     }
 
-    private static void promise14FillsTheGreatestSize() {
-        CandleDip x = Workshop.steady();
-        Workshop.hung(x, 3, 2, 6);
-        Workshop.grow(x, 0, 45);
-        x.pass(10);
-        check.due("14: size 9", 9, () -> x.cutOff(0));
-        x.addOrder(3, 9, 1, 900);
-        x.addOrder(3, 1, 1, 900);
-        check.due("14: an order of size 9", 1, () -> x.fill(0));
-        check.due("14: one is left", 1, () -> x.store(3, 9));
-        check.due("14: size 9 for an order of size 1", 0, () -> x.fill(1));
-        check.due("14: none is left", 0, () -> x.store(3, 9));
-    }
-
     private static void promise14FillsLateOrders() {
         CandleDip x = stocked();
         int today = x.count(0) / 40;
@@ -153,30 +88,6 @@ public final class OrdersTest {
         check.due("14: none is late", 0, () -> x.count(6));
         x.pass(40);
         check.due("14: a filled one does not become late", 1, () -> x.order(0, 4));
-    }
-
-    private static void promise14Refuses() {
-        CandleDip x = stocked();
-        check.refused("14: no order yet", x, IndexOutOfBoundsException.class, () -> x.fill(0));
-        x.addOrder(2, 1, 15, 900);
-        x.addOrder(2, 2, 11, 900);
-        x.addOrder(2, 3, 6, 900);
-        x.addOrder(2, 4, 1, 900);
-        x.addOrder(0, 1, 1, 900);
-        x.addOrder(2, 1, 16, 900);
-        for (int order = 1; order <= 5; order++) {
-            int asked = order;
-            check.refused("14: not enough for " + order, x, IllegalStateException.class, () -> x.fill(asked));
-        }
-        for (int order : new int[] {-1, 6, 20, Integer.MIN_VALUE, Integer.MAX_VALUE}) {
-            check.refused("14: fill(" + order + ")", x, IndexOutOfBoundsException.class, () -> x.fill(order));
-        }
-        check.due("14: just enough", 4, () -> x.fill(0));
-        check.refused("14: filled", x, IllegalStateException.class, () -> x.fill(0));
-        Workshop.harvest(x, 0, 4);
-        x.addOrder(2, 1, 1, 900);
-        check.due("14: another one", 8, () -> x.fill(6));
-        check.refused("14: filled, with candles in the store", x, IllegalStateException.class, () -> x.fill(6));
     }
 
     private static void promise15Order() {
@@ -209,16 +120,5 @@ public final class OrdersTest {
                     () -> x.order(asked, askedWhat));
             }
         }
-    }
-
-    private static void promise15Refuses() {
-        CandleDip x = new CandleDip();
-        check.noIndex("15: no order yet", () -> x.order(0, 0));
-        x.addOrder(0, 1, 1, 0);
-        for (int bad : new int[] {-1, 6, 20, Integer.MIN_VALUE, Integer.MAX_VALUE}) {
-            check.refused("15: order(" + bad + ", 0)", x, IndexOutOfBoundsException.class, () -> x.order(bad, 0));
-            check.refused("15: order(0, " + bad + ")", x, IndexOutOfBoundsException.class, () -> x.order(0, bad));
-        }
-        check.noIndex("15: order 1 of one", () -> x.order(1, 0));
     }
 }

