@@ -43,7 +43,10 @@ public final class CutBoundsTest {
         }
     }
 
-    /** "Throws IllegalStateException if they are bare wicks": new ones, cut ones, molten ones; not at the thickness 1. */
+    /**
+     * "Throws IllegalStateException if they are bare wicks": new ones, cut ones, molten ones; not at the thickness
+     * 1.
+     */
     private static void promise09BareWicks() {
         check.noState("9: new wicks that hang", () -> Workshop.withFrames(1), x -> x.cutOff(0));
         check.noState("9: new wicks aside", Workshop::busy, x -> x.cutOff(3));
@@ -66,7 +69,10 @@ public final class CutBoundsTest {
         return x;
     }
 
-    /** "or their warmth is greater than 20"; "are cut off with a warmth of at most 20": at 20 they are, at 21 they are not. */
+    /**
+     * "or their warmth is greater than 20"; "are cut off with a warmth of at most 20": at 20 they are, at 21 they
+     * are not.
+     */
     private static void promise09WarmthGreaterThan20() {
         CandleDip x = warm(5);
         check.due("9: a warmth of 20", 20, () -> x.frame(0, 3));
@@ -155,7 +161,10 @@ public final class CutBoundsTest {
         check.due(what + ", wax behind it", wax + (size == 0 ? thickness * 8 : 0), () -> x.vat(0));
     }
 
-    /** "candles of the size 0 are thrown away, and their wax .. comes back to the vat": 39 / 40, and 79 / 80 with a crack. */
+    /**
+     * "Returns their size, 0 if they are thrown away", "candles of the size 0 are thrown away, and their wax ..
+     * comes back to the vat": at 39, not at 40.
+     */
     private static void promise09SizeZeroIsThrownAway() {
         CandleDip x = cold(39, false);
         check.due("9: wax of the candles is gone", 5000 - 312, () -> x.vat(0));

@@ -61,7 +61,10 @@ public final class DipBoundsTest {
         }
     }
 
-    /** "Throws IllegalStateException if .. the wax is not melted": at 59; at 60 it is. */
+    /**
+     * "A frame that hangs can be dipped, if the wax is melted", "Throws IllegalStateException if .. the wax is not
+     * melted": at 59; at 60 it is.
+     */
     private static void promise08WaxIsNotMelted() {
         check.noState("8: at 20", () -> hangingAt(20, 0), x -> x.dip(0));
         check.noState("8: at 59", () -> hangingAt(59, 0), x -> x.dip(0));
@@ -84,7 +87,10 @@ public final class DipBoundsTest {
         return x;
     }
 
-    /** "if the vat has less than that, the frame cannot be dipped": bare wicks at 74, with just so much wax and with 1 less. */
+    /**
+     * "if the vat has less than that, the frame cannot be dipped": bare wicks at 74, with just so much wax and with
+     * 1 less.
+     */
     private static void promise08VatHasLess() {
         int[][] cases = {{0, 1, 15, 12}, {0, 20, 15, 240}, {1, 1, 15, 13}, {1, 20, 15, 270}, {2, 1, 15, 15},
             {2, 20, 15, 300}, {3, 1, 12, 13}, {3, 20, 12, 264}};
@@ -104,7 +110,10 @@ public final class DipBoundsTest {
         return x;
     }
 
-    /** "if the vat has less than that, the frame cannot be dipped": candles that are no bare wicks, and the wax of melted ones. */
+    /**
+     * "if the vat has less than that, the frame cannot be dipped": candles that are no bare wicks, and the wax of
+     * melted ones.
+     */
     private static void promise08VatHasLessForLaterDips() {
         CandleDip x = bareOver(240 + 176, 0, 20);
         x.dip(0);
@@ -129,7 +138,10 @@ public final class DipBoundsTest {
         }, y -> y.dip(0));
     }
 
-    /** "if the vat has less than that": that of a layer of 1 on one wick is 1 * 8 * 1 / 10 = 0, and that of none at 400 too. */
+    /**
+     * "if the vat has less than that": that of a layer of 1 on one wick is 1 * 8 * 1 / 10 = 0, and that of none at
+     * 400 too.
+     */
     private static void promise08NothingIsTakenFromAnEmptyVat() {
         CandleDip x = Workshop.thick(319, 1, 399);
         check.due("8: thickness", 399, () -> x.frame(0, 2));
@@ -248,7 +260,10 @@ public final class DipBoundsTest {
         check.due("8: no crack at the thickness 0", 0, () -> x.frame(0, 4));
     }
 
-    /** "they grow by g: 12 less (heat - 60) / 8, and 4 more, if the wicks are bare, and 3 less, if the kind is 3": at each heat. */
+    /**
+     * "they grow by g: 12 less (heat - 60) / 8, and 4 more, if the wicks are bare, and 3 less, if the kind is 3": at
+     * each heat.
+     */
     private static void promise08GrowthAtEachHeat() {
         for (int kind = 0; kind <= 3; kind++) {
             int growth = 12;
@@ -286,7 +301,10 @@ public final class DipBoundsTest {
         return x;
     }
 
-    /** "but no more than 400 less their thickness": 11 of 11 to 400, 4 of 8, 1 of 5, and none at 400; and the wax of so much. */
+    /**
+     * "but no more than 400 less their thickness": 11 of 11 to 400, 4 of 8, 1 of 5, and none at 400; and the wax of
+     * so much.
+     */
     private static void promise08NoMoreThan400() {
         CandleDip all = Workshop.steady();
         Workshop.hung(all, 0, 10, 6);
@@ -361,7 +379,10 @@ public final class DipBoundsTest {
         check.due("8: but they crack", 1, () -> full.frame(0, 4));
     }
 
-    /** "If the wicks were not bare ahead of this": at the thickness 0 there is no crack however cold they are, at 1 there is. */
+    /**
+     * "If the wicks were not bare ahead of this": at the thickness 0 there is no crack however cold they are, at 1
+     * there is.
+     */
     private static void promise08BareWicksGetNoCrack() {
         CandleDip fresh = Workshop.withFrames(1);
         fresh.dip(0);
@@ -400,7 +421,10 @@ public final class DipBoundsTest {
         check.due("8: (37 + 74) / 2", 55, () -> x.frame(0, 3));
     }
 
-    /** "Dips a frame; then a quarter goes by": the wax has its heat ahead of the quarter; the others cool, and itself does not. */
+    /**
+     * "Dips a frame; then a quarter goes by", "but not that of the frame with whose dip this quarter goes by": the others
+     * cool, and itself does not; the wax has its heat ahead of the quarter.
+     */
     private static void promise08QuarterGoesBy() {
         int[][] places = {{0, 12}, {5, 12}, {6, 6}, {11, 6}, {-1, 3}};
         for (int[] p : places) {

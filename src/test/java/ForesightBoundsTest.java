@@ -31,6 +31,8 @@ public final class ForesightBoundsTest {
         promise20WithNone();
         promise20AtMost60Dips();
         promise20LeastOfSeveral();
+        promise20LeastOfSeveralWithRests();
+        promise20DipsAndRestsBetweenThem();
         promise20LeastRest();
         promise20GreatestRest();
         promise20RestsOf19And20AreAlike();
@@ -92,7 +94,10 @@ public final class ForesightBoundsTest {
         check.noState("18: aside again", ForesightBoundsTest::laidAside, x -> x.would(0, 2));
     }
 
-    /** "If several exceptions apply, the one that is named first is thrown": in would the frame, then dips, then the state. */
+    /**
+     * "If several exceptions apply, the one that is named first is thrown": in would the frame, then dips, then the
+     * state.
+     */
     private static void promise18FirstNamedException() {
         for (int dips : new int[] {0, 41}) {
             check.noIndex("18: no frame, " + dips + " dips", Workshop::busy, x -> x.would(5, dips));
@@ -222,7 +227,10 @@ public final class ForesightBoundsTest {
         }
     }
 
-    /** "If several exceptions apply, the one that is named first is thrown": in dipsTo the frame, then rest and size, then the state. */
+    /**
+     * "If several exceptions apply, the one that is named first is thrown": in dipsTo the frame, then rest and size,
+     * then the state.
+     */
     private static void promise19FirstNamedException() {
         int[][] bad = {{-1, 1}, {21, 1}, {0, 0}, {0, 10}};
         for (int[] b : bad) {
@@ -233,7 +241,11 @@ public final class ForesightBoundsTest {
         }
     }
 
-    /** "(0 if they have it now": of whole candles 39 and 40, of cracked ones 79 and 80; the size 9 at 359 and 360; greater ones too. */
+    /**
+     * "would have this size or a greater one", "(0 if they have it now": of whole candles 39 and 40, of cracked ones 79
+     * and 80, the size 9 at 359 and 360. A greater one than was asked for shows only where they have it now: by dips no
+     * size is left out, since a dip adds 16 at most, and a size is 40.
+     */
     private static void promise19HasItNow() {
         int[][] cases = {{39, 0, 1, 1}, {40, 0, 1, 0}, {79, 0, 2, 1}, {80, 0, 2, 0}, {80, 0, 1, 0}, {359, 0, 9, 1},
             {360, 0, 9, 0}, {400, 0, 9, 0}, {400, 0, 1, 0}, {79, 1, 1, 1}, {80, 1, 1, 0}, {399, 1, 5, 1}, {400, 1, 5, 0}};
@@ -361,7 +373,10 @@ public final class ForesightBoundsTest {
         }
     }
 
-    /** "If several exceptions apply, the one that is named first is thrown": in bestRest the frame, then size, then the state. */
+    /**
+     * "If several exceptions apply, the one that is named first is thrown": in bestRest the frame, then size, then
+     * the state.
+     */
     private static void promise20FirstNamedException() {
         for (int size : new int[] {0, 10}) {
             check.noIndex("20: no frame, size " + size, Workshop::busy, x -> x.bestRest(5, size));
@@ -395,7 +410,10 @@ public final class ForesightBoundsTest {
         check.due("20: just wax enough", 0, () -> enough.bestRest(0, 1));
     }
 
-    /** "(as dipsTo() tells": with at most 60 dips; 60 and 61 of kind 3 at 120, where rests of 5 to 9 neither melt nor crack. */
+    /**
+     * "(as dipsTo() tells": with at most 60 dips; 60 and 61 of kind 3 at 120, where rests of 5 to 9 neither melt nor
+     * crack.
+     */
     private static void promise20AtMost60Dips() {
         CandleDip x = slow(18);
         check.due("20: with a rest of 4 they melt", -1, () -> x.dipsTo(0, 4, 4));
@@ -411,6 +429,43 @@ public final class ForesightBoundsTest {
         check.due("20: one dip with a rest of 0", 1, () -> x.dipsTo(0, 0, 1));
         check.due("20: one dip with a rest of 20", 1, () -> x.dipsTo(0, 20, 1));
         check.due("20: the least rest", 0, () -> x.bestRest(0, 1));
+    }
+
+    /**
+     * "of several the least one": 4 dips with 3 rests of 3 take as many quarters as 3 dips with 2 rests of 5, which
+     * is 13.
+     */
+    private static void promise20LeastOfSeveralWithRests() {
+        CandleDip x = Workshop.hot(5000);
+        Workshop.hung(x, 0, 10, 6);
+        for (int i = 0; i < 3; i++) {
+            x.dip(0);
+            x.pass(8);
+        }
+        x.setFire(1);
+        int[] due = {-1, -1, -1, 4, 4, 3, 3};
+        for (int rest = 0; rest < due.length; rest++) {
+            int asked = rest;
+            check.due("20: dips with rests of " + rest, due[rest], () -> x.dipsTo(0, asked, 1));
+        }
+        check.due("20: a rest of 3 rather than of 5", 3, () -> x.bestRest(0, 1));
+    }
+
+    /**
+     * "in the fewest quarters (as dipsTo() tells: dips and rests between them)": 10 dips with 9 rests of 2 are 28, 9
+     * with 8 of 3 are 33.
+     */
+    private static void promise20DipsAndRestsBetweenThem() {
+        CandleDip x = Workshop.hot(5000);
+        Workshop.hung(x, 0, 10, 0);
+        x.setFire(1);
+        x.pass(1);
+        int[] due = {-1, -1, 10, 9, 17};
+        for (int rest = 0; rest < due.length; rest++) {
+            int asked = rest;
+            check.due("20: dips with rests of " + rest, due[rest], () -> x.dipsTo(0, asked, 2));
+        }
+        check.due("20: not the fewest dips", 2, () -> x.bestRest(0, 2));
     }
 
     /** "Looks for the rest between two dips, 0 to 20": the rest 0 is one, and 1 is taken where 0 does not do. */
@@ -474,7 +529,9 @@ public final class ForesightBoundsTest {
         }
     }
 
-    /** "Returns this rest (nothing is changed)": when there is one, when there is none, and when it has the size now. */
+    /**
+     * "Returns this rest (nothing is changed)": when there is one, when there is none, and when it has the size now.
+     */
     private static void promise20NothingIsChanged() {
         check.changesNothing("20: a rest", () -> fallingOver(120), 19, x -> x.bestRest(0, 1));
         check.changesNothing("20: none", () -> bareAt(59), -1, x -> x.bestRest(0, 9));

@@ -58,7 +58,10 @@ public final class FramesBoundsTest {
         check.noArgument("5: addFrame(4, 21)", Workshop::busy, x -> x.addFrame(4, 21));
     }
 
-    /** "Throws IllegalStateException if there are 12"; "There are at most 12, numbered from 0 in the order of their making". */
+    /**
+     * "Throws IllegalStateException if there are 12"; "There are at most 12, numbered from 0 in the order of their
+     * making".
+     */
     private static void promise05AtMostTwelve() {
         CandleDip x = Workshop.steady();
         for (int i = 0; i < 12; i++) {
@@ -72,7 +75,10 @@ public final class FramesBoundsTest {
         check.noState("5: a 13th frame", () -> Workshop.withFrames(12), y -> y.addFrame(0, 1));
     }
 
-    /** "If several exceptions apply, the one that is named first is thrown": in addFrame the arguments, then the state. */
+    /**
+     * "If several exceptions apply, the one that is named first is thrown": in addFrame the arguments, then the
+     * state.
+     */
     private static void promise05ArgumentIsNamedAheadOfState() {
         check.noArgument("5: a 13th frame of kind 4", () -> Workshop.withFrames(12), x -> x.addFrame(4, 1));
         check.noArgument("5: a 13th frame of kind -1", () -> Workshop.withFrames(12), x -> x.addFrame(-1, 1));
@@ -80,7 +86,10 @@ public final class FramesBoundsTest {
         check.noArgument("5: a 13th frame of 21 wicks", () -> Workshop.withFrames(12), x -> x.addFrame(0, 21));
     }
 
-    /** "a thickness, 0 to 400 (0, at first: bare wicks), and a warmth, 0 to 100 (0, at first)"; "it lies aside at first". */
+    /**
+     * "a thickness, 0 to 400 (0, at first: bare wicks), and a warmth, 0 to 100 (0, at first)"; "it lies aside at
+     * first".
+     */
     private static void promise05AtFirst() {
         CandleDip x = Workshop.busy();
         x.addFrame(3, 20);
@@ -117,7 +126,10 @@ public final class FramesBoundsTest {
         }
     }
 
-    /** "Throws IllegalStateException if another frame hangs there": another one, not the frame itself, and as long as it hangs. */
+    /**
+     * "Throws IllegalStateException if another frame hangs there": another one, not the frame itself, and as long as
+     * it hangs.
+     */
     private static void promise06AnotherFrameHangsThere() {
         for (int hook : new int[] {0, 11}) {
             int beside = hook == 0 ? 1 : 10;
@@ -162,7 +174,10 @@ public final class FramesBoundsTest {
         check.due("6: from aside again", -1, () -> x.hang(0, 6));
     }
 
-    /** "If several exceptions apply, the one that is named first is thrown": in hang the frame, then the hook, then the state. */
+    /**
+     * "If several exceptions apply, the one that is named first is thrown": in hang the frame, then the hook, then
+     * the state.
+     */
     private static void promise06FirstNamedException() {
         for (int frame : new int[] {-1, 5}) {
             check.noIndex("6: no frame, no hook below", Workshop::busy, x -> x.hang(frame, -1));

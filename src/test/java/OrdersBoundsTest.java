@@ -77,7 +77,10 @@ public final class OrdersBoundsTest {
         check.noIndex("12: store(4, 10)", Workshop::busy, y -> y.store(4, 10));
     }
 
-    /** "Returns how many candles of both are in the store": of the least kind and size, and of the greatest, and beside them none. */
+    /**
+     * "Returns how many candles of both are in the store": of the least kind and size, and of the greatest, and
+     * beside them none.
+     */
     private static void promise12HowMany() {
         CandleDip x = Workshop.thick(5000, 5, 40);
         x.pass(20);
@@ -132,7 +135,9 @@ public final class OrdersBoundsTest {
         }
     }
 
-    /** "Throws IllegalArgumentException if .. day is earlier than today": in the first and the last quarter of a day. */
+    /**
+     * "Throws IllegalArgumentException if .. day is earlier than today": in the first and the last quarter of a day.
+     */
     private static void promise13DayIsNotEarlierThanToday() {
         int[][] cases = {{1, 0}, {39, 0}, {40, 1}, {79, 1}, {80, 2}, {400, 10}};
         for (int[] c : cases) {
@@ -161,7 +166,9 @@ public final class OrdersBoundsTest {
         }
     }
 
-    /** "day is earlier than today, or more than 1000": on the day 1000 there is this one alone, on the day 1001 none. */
+    /**
+     * "day is earlier than today, or more than 1000": on the day 1000 there is this one alone, on the day 1001 none.
+     */
     private static void promise13NoDayIsLeft() {
         CandleDip x = atQuarter(40000);
         check.due("13: at the quarter 40000, of the day 1000", 0, () -> x.addOrder(0, 1, 1, 1000));
@@ -184,7 +191,10 @@ public final class OrdersBoundsTest {
         return x;
     }
 
-    /** "Throws IllegalStateException if there are 20"; "There are at most 20, numbered likewise", filled and late ones too. */
+    /**
+     * "Throws IllegalStateException if there are 20"; "There are at most 20, numbered likewise", filled and late
+     * ones too.
+     */
     private static void promise13AtMostTwenty() {
         CandleDip x = new CandleDip();
         for (int i = 0; i < 20; i++) {
@@ -217,7 +227,10 @@ public final class OrdersBoundsTest {
         }, y -> y.addOrder(2, 1, 1, 900));
     }
 
-    /** "If several exceptions apply, the one that is named first is thrown": in addOrder the arguments, then the state. */
+    /**
+     * "If several exceptions apply, the one that is named first is thrown": in addOrder the arguments, then the
+     * state.
+     */
     private static void promise13ArgumentIsNamedAheadOfState() {
         int[][] bad = {{-1, 1, 1, 900}, {4, 1, 1, 900}, {0, 0, 1, 900}, {0, 10, 1, 900}, {0, 1, 0, 900}, {0, 1, 61, 900},
             {0, 1, 1, -1}, {0, 1, 1, 1001}};
@@ -409,7 +422,10 @@ public final class OrdersBoundsTest {
         }
     }
 
-    /** "for so many candles, 1 to 60, of a kind and of a least size, 1 to 9, is due on a day": the least and the greatest. */
+    /**
+     * "for so many candles, 1 to 60, of a kind and of a least size, 1 to 9, is due on a day": the least and the
+     * greatest.
+     */
     private static void promise15LeastAndGreatest() {
         CandleDip x = new CandleDip();
         x.addOrder(0, 1, 1, 0);

@@ -52,7 +52,10 @@ public final class QuartersBoundsTest {
         check.due("16: behind 19 quarters", 70, () -> y.pass(19));
     }
 
-    /** "the heat becomes 6 * level more, and of this number n the heat becomes n - (n - 20) / 10, but .. at most 120". */
+    /**
+     * "the heat becomes 6 * level more, and of this number n the heat becomes n - (n - 20) / 10, but .. at most
+     * 120".
+     */
     private static void promise16HeatIsAtMost120() {
         CandleDip just = new CandleDip();
         just.setFire(2);
@@ -118,7 +121,10 @@ public final class QuartersBoundsTest {
         }
     }
 
-    /** "frames on it lose 12 of their warmth in a quarter; on rack 1 they lose 6; frames that lie aside lose 3": the hooks 0, 5, 6 and 11. */
+    /**
+     * "frames on it lose 12 of their warmth in a quarter; on rack 1 they lose 6; frames that lie aside lose 3", "the hook
+     * h of the rack r is the hook 6 * r and h": the first and the last hook of each rack, 0, 5, 6 and 11.
+     */
     private static void promise16CoolingByWhereItIs() {
         int[][] places = {{0, 12}, {5, 12}, {6, 6}, {11, 6}, {-1, 3}};
         for (int[] p : places) {
@@ -141,7 +147,10 @@ public final class QuartersBoundsTest {
         return x;
     }
 
-    /** "the warmth of each frame becomes less by where it is, at least 0": from just so much, from 1 less, and from 1 more. */
+    /**
+     * "the warmth of each frame becomes less by where it is, at least 0": from just so much, from 1 less, and from 1
+     * more.
+     */
     private static void promise16WarmthIsAtLeast0() {
         checkCooling(0, 74, 37, 25, 13, 1, 0, 0);
         checkCooling(0, 72, 36, 24, 12, 0, 0);
@@ -186,7 +195,10 @@ public final class QuartersBoundsTest {
         check.due("16: pass(400)", 442, () -> x.count(0));
     }
 
-    /** "At the end of a day (when the quarter becomes a multiple of 40)": at 40 and 80, not at 39, 41 or 79. */
+    /**
+     * "a day has 40", "At the end of a day (when the quarter becomes a multiple of 40)": at 40 and 80, not at 39, 41
+     * or 79.
+     */
     private static void promise16MultipleOf40() {
         CandleDip x = new CandleDip();
         x.addOrder(0, 1, 1, 0);
@@ -329,7 +341,10 @@ public final class QuartersBoundsTest {
         }
     }
 
-    /** "7 dips in all (also those by which candles melted)": of all frames, of old wicks too, and not the refused ones. */
+    /**
+     * "7 dips in all (also those by which candles melted)": of all frames, of old wicks too, and not the refused
+     * ones.
+     */
     private static void promise17DipsInAll() {
         CandleDip x = Workshop.hot(1000);
         Workshop.hung(x, 0, 1, 6);

@@ -55,7 +55,10 @@ public final class VatBoundsTest {
         check.noIndex("1: order(0, 0)", CandleDip::new, y -> y.order(0, 0));
     }
 
-    /** "with an empty vat"; "wax, 0 to 20000 (0, at first), with a heat, 0 to 120 (20, at first)", "a level, 0 to 5 (0, at first)". */
+    /**
+     * "with an empty vat"; "wax, 0 to 20000 (0, at first), with a heat, 0 to 120 (20, at first)", "a level, 0 to 5
+     * (0, at first)".
+     */
     private static void promise01EmptyVat() {
         CandleDip x = new CandleDip();
         int[] due = {0, 20, 0, 0};
@@ -126,7 +129,10 @@ public final class VatBoundsTest {
         }
     }
 
-    /** "the heat becomes (heat * wax that was there + 20 * wax thrown in) / all wax": from an empty vat to a full one. */
+    /**
+     * "the heat becomes (heat * wax that was there + 20 * wax thrown in) / all wax": from an empty vat to a full
+     * one.
+     */
     private static void promise02AllWaxSharesTheHeat() {
         CandleDip empty = Workshop.hot(0);
         check.due("2: a hot empty vat", 120, () -> empty.vat(1));

@@ -64,7 +64,10 @@ final class Workshop {
         return x;
     }
 
-    /** Dips a frame of rack 1 with a rest of two quarters behind each dip; at the heat 74 it neither melts nor cracks. */
+    /**
+     * Dips a frame of rack 1 with a rest of two quarters behind each dip; at the heat 74 it neither melts nor
+     * cracks.
+     */
     static void grow(CandleDip x, int frame, int dips) {
         for (int i = 0; i < dips; i++) {
             x.dip(frame);
