@@ -111,7 +111,7 @@ public final class ExceptionsTest {
         expect("cutOff(0), bare", STATE, () -> x.cutOff(0));
         expect("cutOff(4), warm", STATE, () -> x.cutOff(4));
         expect("frame(0, 8)", INDEX, () -> x.frame(0, 8));
-        expect("fill(0), filled", STATE, () -> x.fill(0));
+        expect("fill(2), filled", STATE, () -> x.fill(2));
         expect("fill(3), not enough", STATE, () -> x.fill(3));
         expect("order(0, 6)", INDEX, () -> x.order(0, 6));
         expect("would(0, 41)", ARGUMENT, () -> x.would(0, 41));

@@ -391,8 +391,8 @@ public final class OrdersBoundsTest {
     private static void promise14CandlesLeft() {
         CandleDip x = Workshop.busy();
         check.due("14: candles in the store", 12, () -> x.count(3));
-        check.due("14: 3 of size 2 of kind 2", 9, () -> x.fill(2));
-        x.addOrder(2, 1, 5, 900);
+        check.due("14: 5 of size 2 of kind 2", 7, () -> x.fill(0));
+        x.addOrder(2, 1, 3, 900);
         check.due("14: all but those of the kind 1", 4, () -> x.fill(4));
         x.addOrder(1, 1, 4, 900);
         check.due("14: all", 0, () -> x.fill(5));

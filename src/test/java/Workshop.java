@@ -116,7 +116,7 @@ final class Workshop {
 
     /**
      * Something of everything. Frames: 0 and 1 on rack 1, bare and warm; 2 on rack 0, with a crack;
-     * 3 aside and bare; 4 aside and hot. Orders: 0 filled, 1 late, 2 and 3 open, of which 3 can't be filled.
+     * 3 aside and bare; 4 aside and hot. Orders: 0 open, with just candles enough; 1 late; 2 filled; 3 open, without.
      */
     static CandleDip busy() {
         CandleDip x = steady();
@@ -126,11 +126,11 @@ final class Workshop {
         hung(x, 1, 4, 7);
         harvest(x, 1, 4);
         int today = x.count(0) / 40;
-        x.addOrder(2, 1, 2, today);
+        x.addOrder(2, 2, 5, 900);
         x.addOrder(2, 1, 3, today);
-        x.fill(0);
+        x.addOrder(2, 1, 2, today);
+        x.fill(2);
         x.pass(40);
-        x.addOrder(2, 2, 3, 900);
         x.addOrder(1, 2, 1, 1000);
         hung(x, 3, 20, 0);
         x.dip(2);
