@@ -45,6 +45,15 @@ public final class FaceTest {
         check.end();
     }
 
+    /** The names of the methods of the face. */
+    static Set<String> names() {
+        Set<String> names = new TreeSet<>();
+        for (String method : METHODS) {
+            names.add(method.substring(method.indexOf('.') + 1, method.indexOf('(')));
+        }
+        return names;
+    }
+
     /** "public final class CandleDip", "public CandleDip()". */
     private static void theClass() {
         check.due("face: the class", "public final", () -> Modifier.toString(CandleDip.class.getModifiers()));
@@ -72,10 +81,7 @@ public final class FaceTest {
 
     /** Rule 1 of LANGUAGE.md: all other members are private, and no private method bears the name of a public one. */
     private static void nothingElseIsOpen() {
-        Set<String> names = new TreeSet<>();
-        for (String method : METHODS) {
-            names.add(method.substring(method.indexOf('.') + 1, method.indexOf('(')));
-        }
+        Set<String> names = names();
         for (Method method : CandleDip.class.getDeclaredMethods()) {
             if (!Modifier.isPublic(method.getModifiers()) && !method.isSynthetic()) {
                 check.due("face: " + method, true, () -> Modifier.isPrivate(method.getModifiers()));
